@@ -94,7 +94,7 @@ public final class RecurrentSeries {
         long p = Numbers.of(x);
         long q = Numbers.of(y);
         for (int n = 0; n < 2 * bound; n++) {
-            made[n] = Numbers.plus(Numbers.times(p, a.terms[n]), Numbers.times(q, b.terms[n]));
+            made[n] = Numbers.plusTimes(Numbers.times(p, a.terms[n]), q, b.terms[n]);
         }
         return enlist(bound);
     }
@@ -113,7 +113,7 @@ public final class RecurrentSeries {
         for (int n = 0; n < 2 * bound; n++) {
             long sum = 0;
             for (int i = 0; i <= n; i++) {
-                sum = Numbers.plus(sum, Numbers.times(a.terms[i], b.terms[n - i]));
+                sum = Numbers.plusTimes(sum, a.terms[i], b.terms[n - i]);
             }
             made[n] = sum;
         }
@@ -361,6 +361,10 @@ public final class RecurrentSeries {
             return a * b % P;
         }
 
+        static long plusTimes(long sum, long a, long b) {
+            return (sum + a * b) % P;
+        }
+
         /** The inverse of a number that is not 0: its power P - 2. */
         static long inverse(long a) {
             long power = 1;
@@ -378,7 +382,7 @@ public final class RecurrentSeries {
         static long foretold(long[] c, int r, long[] values, int n) {
             long sum = 0;
             for (int i = 0; i < r; i++) {
-                sum = plus(sum, times(c[i], values[n - 1 - i]));
+                sum = plusTimes(sum, c[i], values[n - 1 - i]);
             }
             return sum;
         }
@@ -513,7 +517,7 @@ public final class RecurrentSeries {
         private long timesMirrored(long[] polynomial, int order, int at) {
             long sum = 0;
             for (int i = Math.max(0, at - order); i <= order && i <= at; i++) {
-                sum = Numbers.plus(sum, Numbers.times(polynomial[i], mirrored[at - i]));
+                sum = Numbers.plusTimes(sum, polynomial[i], mirrored[at - i]);
             }
             return sum;
         }

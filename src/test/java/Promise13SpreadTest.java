@@ -25,6 +25,10 @@ public final class Promise13SpreadTest {
         Make.zero(x);
         check.due("spread(7, 24)", x.spread(7, 24), 8);
         check.recurrence(x, 8);
+        Make.series(x, Make.row(2), 5);
+        Make.series(x, Make.row(3), 9);
+        check.due("spread(9, 2)", x.spread(9, 2), 11);
+        check.terms(x, 11, 5, 0, 10, 0, 20);
     }
 
     private static void longest(Check check) {
