@@ -1,6 +1,9 @@
 /** Collects the answers that are not as due, and ends the test with exit code 1 if there was one. */
 final class Check {
     private final String name;
+    private String sentence = "";
+    private int askedForSentence = 1;
+    private int sentences;
     private int asked;
     private int wrong;
 
@@ -8,11 +11,20 @@ final class Check {
         this.name = name;
     }
 
+    /** Names the sentence of the document that is tested from here on. */
+    void sentence(String words) {
+        endSentence();
+        sentence = ", '" + words + "'";
+        askedForSentence = 0;
+        sentences++;
+    }
+
     void due(String call, long got, long want) {
         asked++;
+        askedForSentence++;
         if (got != want) {
             wrong++;
-            System.out.println(name + ": " + call + " answered " + got + ", due is " + want);
+            System.out.println(name + sentence + ": " + call + " answered " + got + ", due is " + want);
         }
     }
 
@@ -36,10 +48,24 @@ final class Check {
         due("coefficient past the order", x.coefficient(k, want.length + 1), RecurrentSeries.BAD);
     }
 
+    int asked() {
+        return asked;
+    }
+
     void end() {
-        System.out.println(name + ": " + asked + " answers, " + wrong + " not as due");
+        endSentence();
+        String of = sentences == 0 ? "" : " for " + sentences + " sentences";
+        System.out.println(name + ": " + asked + " answers" + of + ", " + wrong + " not as due");
         if (wrong != 0) {
             System.exit(1);
+        }
+    }
+
+    /** A sentence for which nothing was asked is not tested. */
+    private void endSentence() {
+        if (askedForSentence == 0) {
+            wrong++;
+            System.out.println(name + sentence + ": nothing was asked");
         }
     }
 }

@@ -2,26 +2,34 @@ import java.util.Random;
 
 /** Long runs of calls, the same at every start, asked of the program and of the reference. */
 public final class ReferenceRunsTest {
-    private static final int RUNS = 300;
-    private static final int CALLS = 150;
+    private static final int RUNS = 450;
+    private static final int MOST_CALLS = 512;
+    // One turn makes at most 43 calls.
+    private static final int LAST_TURN = MOST_CALLS - 100;
     private static final int[] NUMBERS = {0, 0, 0, 1, 1, -1, 2, 3, -2, 2147483647, 2147483646, Integer.MIN_VALUE};
 
     private final Check check = new Check("runs beside the reference");
     private final Random random = new Random(20261115);
     private RecurrentSeries x;
     private Reference y;
+    private int before;
 
     public static void main(String[] args) {
         ReferenceRunsTest test = new ReferenceRunsTest();
         for (int run = 0; run < RUNS; run++) {
             test.x = new RecurrentSeries();
             test.y = new Reference();
-            for (int call = 0; call < CALLS; call++) {
+            test.before = test.check.asked();
+            while (test.calls() < LAST_TURN) {
                 test.anyCall();
             }
-            test.allCoefficients();
+            test.coefficients();
         }
         test.check.end();
+    }
+
+    private int calls() {
+        return check.asked() - before;
     }
 
     private void anyCall() {
@@ -132,9 +140,10 @@ public final class ReferenceRunsTest {
         check.due("obeys(" + k + ") a multiple", x.obeys(k), y.obeys(k));
     }
 
-    private void allCoefficients() {
-        for (int k = 0; k < y.count(); k++) {
-            for (int i = 0; i <= y.order(k) + 1; i++) {
+    /** Asks for the coefficients of the latest series, as many as the object has calls left. */
+    private void coefficients() {
+        for (int k = y.count() - 1; k >= 0; k--) {
+            for (int i = 0; i <= y.order(k) + 1 && calls() < MOST_CALLS; i++) {
                 check.due("coefficient(" + k + ", " + i + ")", x.coefficient(k, i), y.coefficient(k, i));
             }
         }
