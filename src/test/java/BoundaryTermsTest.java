@@ -9,6 +9,7 @@ public final class BoundaryTermsTest {
 
     public static void main(String[] args) {
         Check check = new Check("boundaries of the terms");
+        theConstants(check);
         allCallsOfAnObject(check);
         callsAfterThatEndToo(check);
         anIntThatIsGiven(check);
@@ -25,6 +26,14 @@ public final class BoundaryTermsTest {
         longBound(check);
         whichRefusalComesFirst(check);
         check.end();
+    }
+
+    private static void theConstants(Check check) {
+        check.sentence("The public face: BAD = -1, FULL = -2, LONG = -3, WRONG = -4");
+        check.due("BAD", BAD, -1);
+        check.due("FULL", FULL, -2);
+        check.due("LONG", LONG, -3);
+        check.due("WRONG", RecurrentSeries.WRONG, -4);
     }
 
     private static void allCallsOfAnObject(Check check) {
@@ -221,7 +230,7 @@ public final class BoundaryTermsTest {
     }
 
     private static void badSeries(Check check) {
-        check.sentence("BAD when an argument is not as said there (a series that is not in the list), changing nothing");
+        check.sentence("changing nothing: BAD when an argument is not as said there (a series that is not in the list)");
         for (Maker maker : Maker.ALL) {
             for (int count = 0; count <= 20; count++) {
                 int listed = count;
@@ -251,7 +260,7 @@ public final class BoundaryTermsTest {
     }
 
     private static void badNumber(Check check) {
-        check.sentence("BAD when an argument is not as said there (a number out of its range), changing nothing");
+        check.sentence("changing nothing: BAD when an argument is not as said there (a number out of its range)");
         for (int count = 1; count <= 20; count++) {
             int listed = count;
             for (int m : new int[] {0, -1, 25, LEAST, MOST}) {
@@ -309,9 +318,12 @@ public final class BoundaryTermsTest {
     private static void whichRefusalComesFirst(Check check) {
         check.sentence("BAD ..; else FULL ..; else LONG ..");
         for (Maker maker : Maker.ALL) {
-            Twins.refused(check, maker.name() + ": BAD before FULL", x -> fullLongPast(x), x -> maker.make(x, 20, 20), BAD);
-            Twins.refused(check, maker.name() + ": FULL before LONG", x -> fullLongPast(x), x -> maker.make(x, 2, 3), FULL);
-            Twins.refused(check, maker.name() + ": BAD before LONG", x -> longPast(x), x -> maker.make(x, 4, 2), BAD);
+            Twins.refused(check, maker.name() + ": BAD before FULL",
+                x -> fullLongPast(x), x -> maker.make(x, 20, 20), BAD);
+            Twins.refused(check, maker.name() + ": FULL before LONG",
+                x -> fullLongPast(x), x -> maker.make(x, 2, 3), FULL);
+            Twins.refused(check, maker.name() + ": BAD before LONG",
+                x -> longPast(x), x -> maker.make(x, 4, 2), BAD);
             if (maker.two()) {
                 Twins.refused(check, maker.name() + ": BAD before LONG, second",
                     x -> longPast(x), x -> maker.make(x, 2, 4), BAD);

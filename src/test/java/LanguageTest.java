@@ -21,15 +21,25 @@ public final class LanguageTest {
         "int pairwise(int, int)", "int product(int, int)", "int section(int, int, int)",
         "int shared(int, int)", "int spread(int, int)", "int sums(int)", "int tail(int)",
         "int term(int, long)", "new()"};
+    private static final Set<String> CONSTANTS = Set.of("int", "long", "boolean", "char", "String");
     private static final String[] FORBIDDEN = {
         "\\bthrow\\b", "\\btry\\b", "\\bcatch\\b", "\\bsynchronized\\b", "\\bassert\\b", "->", "::",
-        "^package\\b", "\\bimport\\b", "Exact\\(", "\\bSystem\\.(?!arraycopy)", "\\bRandom\\b", "\\bstatic\\s*\\{"};
+        "^package\\b", "\\bimport\\b", "Exact\\(", "\\bSystem\\.(?!arraycopy)", "\\bRandom\\b", "\\bstatic\\s*\\{",
+        "\\b(float|double)\\b", "\\binstanceof\\b", "\\b(hashCode|toString|equals)\\b"};
 
     public static void main(String[] args) throws IOException {
         Check check = new Check("the rules of the language");
         face(check);
         classesInside(check);
-        forbiddenWords(check);
+        sizes(check, RecurrentSeries.class);
+        for (Class<?> one : RecurrentSeries.class.getDeclaredClasses()) {
+            sizes(check, one);
+        }
+        String code = withoutComments(Files.readString(SOURCE));
+        forbiddenWords(check, code);
+        namesOfClasses(check, code);
+        noObjectInACall(check, code);
+        lengthsOfMethods(check, code);
         check.end();
     }
 
@@ -77,11 +87,64 @@ public final class LanguageTest {
         }
     }
 
-    private static void forbiddenWords(Check check) throws IOException {
-        String text = Files.readString(SOURCE);
+    private static void sizes(Check check, Class<?> one) {
+        int fields = 0;
+        for (Field field : one.getDeclaredFields()) {
+            boolean constant = Modifier.isStatic(field.getModifiers());
+            fields += constant ? 0 : 1;
+            String type = field.getType().getSimpleName();
+            check.due("type of the constant " + field.getName(), constant && !CONSTANTS.contains(type), false);
+        }
+        check.due(one.getName() + " has more than twenty fields", fields > 20, false);
+        for (Method method : one.getDeclaredMethods()) {
+            check.due(method.getName() + " has more than seven parameters", method.getParameterCount() > 7, false);
+        }
+    }
+
+    private static String withoutComments(String text) {
+        return text.replaceAll("(?s)/\\*.*?\\*/", "").replaceAll("//[^\n]*", "");
+    }
+
+    private static void forbiddenWords(Check check, String code) {
         for (String word : FORBIDDEN) {
-            Matcher matcher = Pattern.compile(word, Pattern.MULTILINE).matcher(text);
+            Matcher matcher = Pattern.compile(word, Pattern.MULTILINE).matcher(code);
             check.due("the text has " + word, matcher.find(), false);
+        }
+    }
+
+    /** Of the library the program uses Math alone. */
+    private static void namesOfClasses(Check check, String code) {
+        Set<String> known = new TreeSet<>(Set.of("RecurrentSeries", "Math"));
+        for (Class<?> one : RecurrentSeries.class.getDeclaredClasses()) {
+            known.add(one.getSimpleName());
+        }
+        Matcher matcher = Pattern.compile("\\b[A-Z]\\w*[a-z]\\w*").matcher(code);
+        while (matcher.find()) {
+            check.due("the name " + matcher.group() + " is known", known.contains(matcher.group()), true);
+        }
+    }
+
+    /** All calls of a run live in one room: rows are made in constructors and used again. */
+    private static void noObjectInACall(Check check, String code) {
+        for (String line : code.split("\n")) {
+            boolean ofAField = line.startsWith("    private ") || line.startsWith("        private ");
+            boolean ofTheList = line.equals("            list[k] = new Series();");
+            check.due("an object is made in: " + line, line.contains("new ") && !ofAField && !ofTheList, false);
+        }
+    }
+
+    private static void lengthsOfMethods(Check check, String code) {
+        String[] lines = code.split("\n");
+        for (int first = 0; first < lines.length; first++) {
+            String indent = lines[first].replaceAll("\\S.*", "");
+            if (!lines[first].endsWith(") {") || indent.length() > 8 || lines[first].matches(" *(for|if|while) .*")) {
+                continue;
+            }
+            int last = first;
+            while (!lines[last].equals(indent + "}")) {
+                last++;
+            }
+            check.due(lines[first].trim() + " is longer than sixty lines", last - first > 60, false);
         }
     }
 }
