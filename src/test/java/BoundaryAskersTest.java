@@ -36,6 +36,8 @@ public final class BoundaryAskersTest {
         test.sharedWithTheOrderZero();
         test.sharedOfEveryOrder();
         test.sharedNotInTheList();
+        test.askingChangesNothing();
+        test.askingInVainChangesNothing();
         test.check.end();
     }
 
@@ -449,5 +451,47 @@ public final class BoundaryAskersTest {
                 check.due("shared(" + k + ", " + k + ") in a list of " + count, x.shared(k, k), BAD);
             }
         }
+    }
+
+    /** Two series, and four numbers in the row. */
+    private static void past(RecurrentSeries x) {
+        Make.fibonacci(x);
+        Make.geometric(x, 3);
+        Make.give(x, 1, 1, 4, 7);
+    }
+
+    private void unchanged(String name, Twins.Call call, int want) {
+        Twins.refused(check, name, x -> past(x), call, want);
+    }
+
+    private void askingChangesNothing() {
+        check.sentence("Not promised: the state changes described above (calls that ask make none)");
+        unchanged("count()", x -> x.count(), 2);
+        unchanged("order(0)", x -> x.order(0), 2);
+        unchanged("coefficient(1, 1)", x -> x.coefficient(1, 1), 3);
+        unchanged("term(0, 10)", x -> x.term(0, 10), 55);
+        unchanged("term(0, 2^63 - 1)", x -> x.term(0, FARTHEST), 1);
+        unchanged("differ(0, 1)", x -> x.differ(0, 1), 0);
+        unchanged("differ(1, 1)", x -> x.differ(1, 1), -1);
+        unchanged("obeys(0)", x -> x.obeys(0) ? 1 : 0, 0);
+        unchanged("shared(0, 1)", x -> x.shared(0, 1), 3);
+        unchanged("shared(0, 0)", x -> x.shared(0, 0), 2);
+    }
+
+    private void askingInVainChangesNothing() {
+        check.sentence("Not promised: the state changes described above (calls that ask in vain make none)");
+        for (int k : outside(2)) {
+            unchanged("order(" + k + ")", x -> x.order(k), BAD);
+            unchanged("coefficient(" + k + ", 1)", x -> x.coefficient(k, 1), BAD);
+            unchanged("term(" + k + ", 0)", x -> x.term(k, 0), BAD);
+            unchanged("differ(" + k + ", 0)", x -> x.differ(k, 0), -2);
+            unchanged("differ(0, " + k + ")", x -> x.differ(0, k), -2);
+            unchanged("obeys(" + k + ")", x -> x.obeys(k) ? 1 : 0, 0);
+            unchanged("shared(" + k + ", 0)", x -> x.shared(k, 0), BAD);
+            unchanged("shared(0, " + k + ")", x -> x.shared(0, k), BAD);
+        }
+        unchanged("coefficient(0, 0)", x -> x.coefficient(0, 0), BAD);
+        unchanged("coefficient(0, 3)", x -> x.coefficient(0, 3), BAD);
+        unchanged("term(0, -1)", x -> x.term(0, -1), BAD);
     }
 }

@@ -60,6 +60,10 @@ public final class BoundaryRowTest {
         check.sentence("Promise 2: false, changing nothing, when forty are there");
         Twins.refused(check, "give the 41st", x -> giveForty(x), x -> x.give(5) ? 1 : 0, 0);
         Twins.refused(check, "give a 0 as the 41st", x -> giveForty(x), x -> x.give(0) ? 1 : 0, 0);
+        Twins.refused(check, "give the 41st beside a series", x -> {
+            Make.fibonacci(x);
+            giveForty(x);
+        }, x -> x.give(5) ? 1 : 0, 0);
         RecurrentSeries x = new RecurrentSeries();
         giveForty(x);
         for (int i = 0; i < 100; i++) {

@@ -12,14 +12,14 @@ final class Told {
 
     static List<Integer> of(RecurrentSeries x) {
         Told told = new Told(x);
-        told.list();
-        told.row();
+        int count = x.count();
+        told.answers.add(count);
+        told.list(count);
+        told.row(count);
         return told.answers;
     }
 
-    private void list() {
-        int count = x.count();
-        answers.add(count);
+    private void list(int count) {
         for (int k = 0; k < count; k++) {
             series(k);
         }
@@ -36,8 +36,9 @@ final class Told {
     }
 
     /** The numbers of a row come to light as the coefficients and the terms of a leaf. */
-    private void row() {
-        while (x.forget()) {
+    private void row(int count) {
+        for (int left = count - 1; left >= 0; left--) {
+            x.forget();
             answers.add(x.count());
         }
         for (int r = 12; r >= 0 && x.count() == 0; r--) {
