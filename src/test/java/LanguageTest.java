@@ -21,6 +21,7 @@ public final class LanguageTest {
         "int pairwise(int, int)", "int product(int, int)", "int section(int, int, int)",
         "int shared(int, int)", "int spread(int, int)", "int sums(int)", "int tail(int)",
         "int term(int, long)", "new()"};
+    private static final int CONSTANT = Modifier.PUBLIC | Modifier.STATIC | Modifier.FINAL;
     private static final Set<String> CONSTANTS = Set.of("int", "long", "boolean", "char", "String");
     private static final String[] FORBIDDEN = {
         "\\bthrow\\b", "\\btry\\b", "\\bcatch\\b", "\\bsynchronized\\b", "\\bassert\\b", "->", "::",
@@ -45,7 +46,8 @@ public final class LanguageTest {
 
     private static void face(Check check) {
         Class<?> face = RecurrentSeries.class;
-        check.due("final", Modifier.isFinal(face.getModifiers()), true);
+        check.due("the class is public and final", face.getModifiers(), Modifier.PUBLIC | Modifier.FINAL);
+        check.due("the class stands in no package", face.getPackageName().isEmpty(), true);
         Set<String> seen = new TreeSet<>();
         Set<String> privateNames = new TreeSet<>();
         for (Method method : face.getDeclaredMethods()) {
@@ -53,6 +55,7 @@ public final class LanguageTest {
             if (Modifier.isPrivate(method.getModifiers())) {
                 privateNames.add(method.getName());
             } else {
+                check.due(method.getName() + " is public and not static", method.getModifiers(), Modifier.PUBLIC);
                 seen.add(method.getReturnType() + " " + method.getName() + types);
             }
         }
@@ -61,11 +64,14 @@ public final class LanguageTest {
             check.due(field.getName() + " is static and not final",
                 Modifier.isStatic(field.getModifiers()) && !constant, false);
             if (!Modifier.isPrivate(field.getModifiers())) {
+                check.due(field.getName() + " is a public constant", field.getModifiers(), CONSTANT);
+                check.due(field.getName() + " is an int", field.getType() == int.class, true);
                 seen.add(field.getName());
             }
         }
         for (Constructor<?> constructor : face.getDeclaredConstructors()) {
             check.due("parameters of the constructor", constructor.getParameterCount(), 0);
+            check.due("the constructor is public", constructor.getModifiers(), Modifier.PUBLIC);
             seen.add("new()");
         }
         check.due("face is " + seen, seen.equals(new TreeSet<>(Arrays.asList(FACE))), true);
@@ -80,11 +86,23 @@ public final class LanguageTest {
         check.due("more than eleven classes inside", inside.length > 11, false);
         for (Class<?> one : inside) {
             check.due(one.getName() + " is static", Modifier.isStatic(one.getModifiers()), true);
+            for (Method method : one.getDeclaredMethods()) {
+                check.due(one.getName() + "." + method.getName() + " bears a name of the face",
+                    Modifier.isPrivate(method.getModifiers()) && namesOfTheFace().contains(method.getName()), false);
+            }
             for (Field field : one.getDeclaredFields()) {
                 boolean loose = Modifier.isStatic(field.getModifiers()) && !Modifier.isFinal(field.getModifiers());
                 check.due(one.getName() + "." + field.getName() + " is static and not final", loose, false);
             }
         }
+    }
+
+    private static Set<String> namesOfTheFace() {
+        Set<String> names = new TreeSet<>();
+        for (Method method : RecurrentSeries.class.getMethods()) {
+            names.add(method.getName());
+        }
+        return names;
     }
 
     private static void sizes(Check check, Class<?> one) {
